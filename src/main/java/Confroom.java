@@ -229,7 +229,7 @@ public final class Confroom {
     }
 
     private void needStream(int person) {
-        if (!streams.live[person]) {
+        if (!streams.published.holds(person)) {
             throw new IllegalStateException("no stream is published");
         }
     }
@@ -295,7 +295,7 @@ public final class Confroom {
     }
 
     private void showStream(int receiver, int other) {
-        if (!floor.isHere(other) || other == receiver || !streams.live[other]) {
+        if (!floor.isHere(other) || other == receiver || !streams.published.holds(other)) {
             return;
         }
         if (view.count < wishes.places[receiver] && !view.holds(other)) {
@@ -407,7 +407,6 @@ public final class Confroom {
             // The next one in this seat is another person, who must not inherit the seconds.
             if (loudest == person) {
                 loudest = NONE;
-                loudSeconds = 0;
             }
         }
 
@@ -436,27 +435,23 @@ public final class Confroom {
 
     /** The stream of each person, and its key pictures. */
     private static final class Streams {
-        final boolean[] live = new boolean[SEATS];
         final int[] base = new int[SEATS];
         final int[] step = new int[SEATS];
         final int[] keyCount = new int[SEATS];
         final boolean[] asked = new boolean[SEATS];
-        /** Those who publish, the earliest stream first. */
+        /** Those who publish a stream, the earliest stream first. */
         final Line published = new Line();
         int limit = FIRST_LIMIT;
         private final int[] lastKey = new int[SEATS];
 
         void begin(int person, int baseRate, int stepRate) {
-            live[person] = true;
             base[person] = baseRate;
             step[person] = stepRate;
-            keyCount[person] = 0;
-            asked[person] = false;
             published.putLast(person);
         }
 
         void stop(int person) {
-            live[person] = false;
+            keyCount[person] = 0;
             asked[person] = false;
             published.drop(person);
         }
@@ -609,10 +604,10 @@ public final class Confroom {
         void clearStream(int person) {
             for (int receiver = 0; receiver < SEATS; receiver++) {
                 layers[receiver][person] = 0;
-                targets[receiver][person] = 0;
             }
         }
 
+        /** An empty seat has no targets, so that it neither asks for key pictures nor is sent any. */
         void clearReceiver(int receiver) {
             for (int other = 0; other < SEATS; other++) {
                 layers[receiver][other] = 0;
