@@ -298,7 +298,7 @@ public final class Confroom {
         if (!floor.isHere(other) || other == receiver || !streams.published.holds(other)) {
             return;
         }
-        if (view.count < wishes.places[receiver] && !view.holds(other)) {
+        if (view.count < wishes.places[receiver]) {
             view.putLast(other);
         }
     }
@@ -337,9 +337,9 @@ public final class Confroom {
             count = kept;
         }
 
+        /** One who is in the line already keeps its place. */
         void putLast(int person) {
-            drop(person);
-            if (count < SEATS) {
+            if (count < SEATS && !holds(person)) {
                 row[count] = person;
                 count++;
             }

@@ -128,6 +128,9 @@ public final class EdgesTest {
             for (int receiver = 0; receiver < 6; receiver++) {
                 Check.is("3: pinned by " + receiver, room.pin(receiver, -1), -1);
             }
+            room.pin(1, 2);
+            room.leave(left);
+            Check.is("3: another one stays pinned", room.pin(1, -1), 2);
         }
     }
 

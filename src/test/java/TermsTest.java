@@ -53,10 +53,14 @@ public final class TermsTest {
         }
     }
 
+    /** Another receiver is asked in between, so that no answer can be left from the other way. */
     private static void targetsOf(String what, Confroom room, int receiver, int... due) {
+        int another = receiver == 0 ? 1 : 0;
         for (int other = 0; other < due.length; other++) {
             Check.is(what + ": target " + other, room.target(receiver, other), due[other]);
+            Check.is(what + ": of another one itself", room.target(another, another), 0);
             Check.is(what + ": by steps " + other, room.targetBySteps(receiver, other), due[other]);
+            Check.is(what + ": of it, by steps", room.targetBySteps(another, another), 0);
         }
     }
 
