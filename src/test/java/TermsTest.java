@@ -8,7 +8,9 @@ public final class TermsTest {
         speakersHoldOneAfterTheOther();
         speakersHoldIsNotBrokenBetweenSeconds();
         speakersHoldIsSetLater();
+        speakersStayUntilAnotherOne();
         speakersWhoLeaves();
+        speakersWhoLeavesIsNotTheOneBefore();
         placesInTheirOrder();
         placesOfStreamsAlone();
         placesAsManyAtMost();
@@ -256,6 +258,51 @@ public final class TermsTest {
         Check.is("10 of 10 seconds", more.speaker(), 0);
         more.setTimes(10, 0);
         Check.is("a setting takes nothing back", more.speaker(), 0);
+    }
+
+    // "it becomes the speaker": and is it until another one does, or until it leaves
+    private static void speakersStayUntilAnotherOne() {
+        for (int way = 0; way < 4; way++) {
+            Confroom room = publishing(3);
+            room.setTimes(2, 0);
+            room.setLevel(2, 100);
+            room.pass(2);
+            if (way == 0) {
+                room.mute(2);
+            } else if (way == 1) {
+                room.setLevel(2, 0);
+            } else if (way == 2) {
+                room.end(2);
+            } else {
+                room.setTimes(10, 10);
+                room.setLevel(2, 29);
+            }
+            Check.is("at once, way " + way, room.speaker(), 2);
+            room.pass(20);
+            Check.is("20 seconds later, way " + way, room.speaker(), 2);
+            room.setLevel(2, 0);
+            room.setTimes(2, 0);
+            room.setLevel(1, 30);
+            room.pass(1);
+            Check.is("another one not long enough, way " + way, room.speaker(), 2);
+            room.pass(1);
+            Check.is("another one, way " + way, room.speaker(), 1);
+        }
+    }
+
+    // "who leaves is not the speaker any more"
+    private static void speakersWhoLeavesIsNotTheOneBefore() {
+        Confroom room = publishing(4);
+        room.setTimes(1, 0);
+        speaks(room, 3);
+        speaks(room, 2);
+        speaks(room, 1);
+        seenBy("all three spoke", room, 0, 1, 2, 3);
+        room.leave(1);
+        Check.is("nobody speaks", room.speaker(), -1);
+        room.pass(1);
+        Check.is("nor with the next second", room.speaker(), -1);
+        seenBy("the others spoke still", room, 0, 2, 3);
     }
 
     // "who leaves is not the speaker any more"
